@@ -1063,11 +1063,11 @@ public final class ClubSmoke {
             }
         }
 
-        static boolean isBetweenItems(int sign) {
+        private static boolean isBetweenItems(int sign) {
             return sign == 0 || sign >= HEAD && (sign - HEAD) % 2 == 0;
         }
 
-        static boolean fits(int read, int sign, int cells) {
+        private static boolean fits(int read, int sign, int cells) {
             if (sign >= FULL_CLUB) {
                 return false;
             }
@@ -1132,11 +1132,11 @@ public final class ClubSmoke {
             }
         }
 
-        int behind(int c) {
+        private int behind(int c) {
             return c + 1 < cells ? c + 1 : 0;
         }
 
-        int ahead(int c) {
+        private int ahead(int c) {
             return c > 0 ? c - 1 : cells - 1;
         }
 
@@ -1344,7 +1344,7 @@ public final class ClubSmoke {
             return greatest;
         }
 
-        static int partLike(int some, int kind, int meant) {
+        private static int partLike(int some, int kind, int meant) {
             int part = 0;
             for (int other = 0; other < Kind.COUNT; other++) {
                 boolean alike = Kind.spoken(other, meant) == Kind.spoken(kind, meant);
@@ -1376,7 +1376,7 @@ public final class ClubSmoke {
             return mostByTalk(club, meant, turns, 0);
         }
 
-        int mostByTalk(Club club, int meant, int turns, int level) {
+        private int mostByTalk(Club club, int meant, int turns, int level) {
             if (turns <= 0 || level + 1 >= airs.length) {
                 return club.sumOf(airs[level]);
             }
@@ -1391,7 +1391,7 @@ public final class ClubSmoke {
             return most;
         }
 
-        int leastByWindow(Club club, int meant, int turns, int level) {
+        private int leastByWindow(Club club, int meant, int turns, int level) {
             // Nobody talks behind the last window, so no other cell than the fullest need be tried.
             if (turns <= 1 || level + 1 >= airs.length) {
                 return club.sumOf(airs[level]) - club.fullestOf(airs[level]);
@@ -1407,7 +1407,7 @@ public final class ClubSmoke {
             return fewest;
         }
 
-        void takeAir(int level) {
+        private void takeAir(int level) {
             System.arraycopy(airs[level], 0, airs[level + 1], 0, CELLS_MOST);
         }
     }

@@ -34,6 +34,10 @@ final class ChancesTest {
         Check.due("50 and 70: one is left", y.evening(0, 1), 50);
         Check.due("50 and 70, 140 and 70", y.evening(90, 1), 70);
         Check.due("both are opened", y.evening(0, 2), 0);
+        ClubSmoke b = Check.club("p03 b0");
+        Check.due("25, 12, 13 by rings: not the fullest first", b.evening(99, 2), 37);
+        b.talk(0, 99);
+        Check.due("25, 12, 13 hang: the same, one more", b.evening(99, 1), 50);
         ClubSmoke z = Check.club("p03 v0 v1");
         for (int k = 0; k < 22; k++) {
             z.talk(k % 2, 90);

@@ -85,7 +85,9 @@ final class ClubsTest {
         Check.due("leak", x.count(7), 3);
         x.talk(0, 99);
         x.hour();
-        x.keep(1);
+        for (int k = 0; k < 3; k++) {
+            x.keep(k);
+        }
         x.thunder();
         long before = x.digest();
         Check.due("a fault", x.club(2), -4);
@@ -95,7 +97,9 @@ final class ClubsTest {
         for (int what = 0; what < counts.length; what++) {
             Check.due("anew count(" + what + ")", x.count(what), counts[what]);
         }
-        Check.finds("kept clubs go", x, x.on(1), 1);
+        for (int k = 0; k < 3; k++) {
+            Check.finds("kept clubs go", x, x.on(k), 1);
+        }
         Check.due("talked anew", x.member(0, 3) == 1 ? x.asked() : -77, 0);
         x.put(1, 0, 0);
         Check.due("the text may go", x.count(0), 2);
@@ -152,6 +156,11 @@ final class ClubsTest {
         Check.due("alone", y.mark(2, 2), 0);
         Check.due("vicar alone", y.mark(4, 2), 0);
         Check.due("vicar among young", y.mark(5, 2), 2);
+        ClubSmoke z = Check.club("p03 v2 f1 y2 f2");
+        Check.due("the first and the last one too", z.mark(1, 3), 2);
+        Check.due("the first one too", z.mark(3, 3), 2);
+        Check.due("the first one too", z.mark(2, 2), 1);
+        Check.due("the first one itself not", z.mark(0, 2), 1);
     }
 
     private static void smoke() {

@@ -60,6 +60,12 @@ final class SetsTest {
         due(z, 99, 540, 1, 63);
         askDue(z, 99, 540, 0, 1);
         Check.due("SMOKE is not asked", z.count(4), 0);
+        ClubSmoke a = Check.club(SIX);
+        sureDue(a, 47, 31, 4, 16 + 32);
+        sureDue(a, 10, 10, 0, 16);
+        ClubSmoke b = Check.club(SIX);
+        askDue(b, 47, 31, 0, 2);
+        askDue(b, 99, 99, 3, 1);
     }
 
     private static void setsRefused() {

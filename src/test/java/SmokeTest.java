@@ -137,6 +137,15 @@ final class SmokeTest {
         windowDue(x, 19, 3, 14);
         windowDue(x, 0, 3, 14);
         windowDue(x, 7992, 0, 0);
+        ClubSmoke y = Check.club("p03 v0 v1 v2");
+        y.talk(0, 30);
+        y.talk(1, 20);
+        y.talk(2, 10);
+        windowDue(y, 59, 1, 1);
+        windowDue(y, 30, 1, 1);
+        windowDue(y, 29, 2, 3);
+        windowDue(y, 9, 3, 7);
+        windowDue(y, 0, 3, 7);
         Check.due("window(7993)", x.window(7993), -1);
         Check.due("window(-1)", x.window(-1), -1);
         Check.due("nothing is done", x.count(4), 70);
