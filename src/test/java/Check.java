@@ -2,8 +2,14 @@
 final class Check {
     private static int wrong = 0;
     private static int looked = 0;
+    private static String part = "";
 
     private Check() {
+    }
+
+    /** What is looked at from here on, told ahead of each wrong answer. */
+    static void inside(String name) {
+        part = name;
     }
 
     static void due(String call, long got, long want) {
@@ -11,7 +17,7 @@ final class Check {
         if (got != want) {
             wrong++;
             if (wrong <= 40) {
-                System.out.println(call + " answered " + got + ", due is " + want);
+                System.out.println(part + call + " answered " + got + ", due is " + want);
             }
         }
     }
