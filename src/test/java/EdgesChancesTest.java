@@ -64,6 +64,19 @@ final class EdgesChancesTest {
         Check.due("one opened, 90 more, the other opened", x.evening(99, 2), 90);
     }
 
+    @Edges.Doc(promise = 37, says = {"the other one opens a CELL, or none", "CELLS the ceiling has (3 .. 8)"})
+    static void eveningUnderThreeAndEightCells() {
+        for (int cells : new int[] {3, 8}) {
+            int last = cells - 1;
+            ClubSmoke x = Check.club("p0" + cells + " v" + last + " v0 m" + last + " f1 y1 b1");
+            x.talk(0, 50);
+            x.talk(1, 40);
+            Check.due("the last is opened", x.evening(0, 1), 40);
+            Check.due("the first, too", x.evening(0, 2), 0);
+            Check.due("60 of the first opened, 50 left", x.evening(20, 1), 50);
+        }
+    }
+
     @Edges.Doc(promise = 37, says = "in rings")
     static void eveningByRingsAroundTheEnds() {
         for (int seat = 0; seat < 3; seat++) {

@@ -2,6 +2,8 @@ import java.io.IOException;
 
 /** Boundaries of promises 15 to 21: talk, hour, open, thunder, undo, keep, on. */
 final class EdgesDeedsTest {
+    private static final int HOUR = -1, WINDOW = -2, THUNDER = -3;
+
     private EdgesDeedsTest() {
     }
 
@@ -262,6 +264,33 @@ final class EdgesDeedsTest {
         }
     }
 
+    private static ClubSmoke eightCells() {
+        return Check.club("p38 m0b1y1f2a7v7");
+    }
+
+    /** One of forty: each sort of deed, the first and last cell and member, nothing and most being meant. */
+    private static void deed(ClubSmoke x, int n) {
+        int[][] deeds = {{0, 99}, {5, 99}, {4, 99}, {0, 0}, {WINDOW, 7}, {WINDOW, 0}, {HOUR, 0}, {3, 99}, {2, 9},
+            {THUNDER, 0}};
+        int[] d = deeds[n % deeds.length];
+        int answer = d[0] == HOUR ? x.hour() : d[0] == WINDOW ? x.open(d[1]) : d[0] == THUNDER ? x.thunder() : x.talk(d[0], d[1]);
+        Check.holds("deed " + n, answer >= 0);
+    }
+
+    @Edges.Doc(promise = 19, says = {"DEEDS from number n on are undone", "What is done: TALKING, an HOUR, a WINDOW, THUNDER."})
+    static void undoOneByOneOfForty() {
+        ClubSmoke x = eightCells();
+        long[] before = new long[40];
+        for (int n = 0; n < 40; n++) {
+            before[n] = x.digest();
+            deed(x, n);
+        }
+        for (int n = 39; n >= 0; n--) {
+            Check.due("undo(" + n + ")", x.undo(n), 1);
+            Check.due("as before deed " + n, x.digest(), before[n]);
+        }
+    }
+
     @Edges.Doc(promise = 19, says = {"DEEDS from number n on are undone", "These are DEEDS 0, 1, .. (40 at most)."})
     static void undoMakesRoomForDeeds() {
         ClubSmoke x = Edges.fullClub();
@@ -355,6 +384,31 @@ final class EdgesDeedsTest {
         Check.due("on(2)", x.on(2), 40);
         Check.due("as it was kept", x.digest(), full);
         Check.holds("not the first digest", full != empty);
+    }
+
+    /** What is done behind keeping it does not come to what was kept. */
+    @Edges.Doc(promise = 21, says = {"The CLUB is as it was kept", "(as it is, DEEDS)"})
+    static void onBehindFortyOtherDeeds() {
+        ClubSmoke x = eightCells();
+        for (int n = 0; n < 40; n++) {
+            deed(x, n);
+        }
+        x.keep(1);
+        long[] behind = new long[41];
+        for (int n = 40; n >= 0; n--) {
+            x.undo(n);
+            behind[n] = x.digest();
+        }
+        Edges.talks(x, 20, 1, 77);
+        Edges.hours(x, 20);
+        Check.due("on(1)", x.on(1), 40);
+        for (int n = 40; n >= 0; n--) {
+            Check.due("undo(" + n + ")", x.undo(n), n == 40 ? 0 : 1);
+            Check.due("as it was behind " + n, x.digest(), behind[n]);
+        }
+        Edges.talks(x, 40, 0, 1);
+        Check.due("on(1) again", x.on(1), 40);
+        Check.due("as it was kept", x.digest(), behind[40]);
     }
 
     @Edges.Doc(promise = 21, says = "The CLUB is as it was kept")
