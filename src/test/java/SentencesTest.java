@@ -16,6 +16,9 @@ final class SentencesTest {
 
     public static void main(String[] args) throws IOException {
         String words = Edges.document();
+        if (words.isEmpty()) {
+            return;
+        }
         Matcher m = Pattern.compile("## Promise (\\d+): .*?`: (.*?) (?=## )").matcher(words);
         int promises = 0;
         while (m.find()) {
