@@ -6,10 +6,10 @@ import java.nio.file.Path;
 import java.util.regex.Matcher;
 import java.util.regex.Pattern;
 
-/** Each word of the promises 1 to 47 stands in what some test of boundaries says it looks at. */
+/** Each word of the promises 1 to 47, of 'Terms' and of the 512 calls stands in what some test of boundaries says it looks at. */
 final class SentencesTest {
     private static final Class<?>[] TESTS = {EdgesRowsTest.class, EdgesClubsTest.class, EdgesDeedsTest.class, EdgesSmokeTest.class,
-        EdgesSetsTest.class, EdgesChancesTest.class, EdgesToldTest.class, OrderTest.class};
+        EdgesSetsTest.class, EdgesChancesTest.class, EdgesToldTest.class, EdgesTermsTest.class, OrderTest.class};
 
     private SentencesTest() {
     }
@@ -27,6 +27,8 @@ final class SentencesTest {
             everyWordIsLookedAt(promises, m.group(2));
         }
         Check.due("promises", promises, 47);
+        everyWordOf("Terms", part(words, "## Terms", "## Promise 1:"));
+        everyWordOf("the 512 calls", part(words, "An object is used", "## The public face"));
         everyTestIsListed();
         Check.end();
     }
@@ -48,6 +50,28 @@ final class SentencesTest {
         Check.holds("promise " + promise + " has a test", tests > 0);
         String left = left(seen, section);
         Check.holds("promise " + promise + ", without a test: " + left, left.isEmpty());
+    }
+
+    /** Words that hold for several promises may be looked at by a test of any of these. */
+    private static void everyWordOf(String what, String section) {
+        boolean[] seen = new boolean[section.length()];
+        for (Class<?> c : TESTS) {
+            for (Method m : Edges.testsOf(c)) {
+                for (String says : m.getAnnotation(Edges.Doc.class).says()) {
+                    mark(seen, section, says);
+                }
+            }
+        }
+        String left = left(seen, section);
+        Check.holds(what + ", without a test: " + left, left.isEmpty());
+    }
+
+    private static String part(String words, String from, String to) {
+        int begin = words.indexOf(from);
+        int end = words.indexOf(to);
+        boolean found = begin >= 0 && end > begin;
+        Check.holds("'" + from + "' stands ahead of '" + to + "'", found);
+        return found ? words.substring(begin, end).replace("## Terms", "").replace("```text", "") : "";
     }
 
     private static void mark(boolean[] seen, String section, String says) {
