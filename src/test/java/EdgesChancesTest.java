@@ -51,6 +51,20 @@ final class EdgesChancesTest {
         Check.due("10 more, 50 less", x.evening(10, 1), 110);
     }
 
+    /** No hour goes by in an evening, so that the leak is no matter: two turns end with 90 in one cell. */
+    @Edges.Doc(promise = 37, says = {"n (0 .. 2) times each: all SMOKE then", "the LEAK (0 .. 9, one figure)"})
+    static void eveningUnderEachLeak() {
+        for (int leak = 0; leak <= 9; leak++) {
+            ClubSmoke x = Check.club("p" + leak + "3 v0 v1");
+            x.talk(0, 99);
+            x.talk(1, 99);
+            Check.due("no turn, leak " + leak, x.evening(99, 0), 180);
+            Check.due("one turn, leak " + leak, x.evening(99, 1), 90);
+            Check.due("two turns, leak " + leak, x.evening(99, 2), 90);
+            Check.due("the hour, leak " + leak, x.count(2), 0);
+        }
+    }
+
     @Edges.Doc(promise = 37, says = {"the first one wanting much, the other one little", "999 at most: more is lost"})
     static void eveningAtMostSmoke() {
         ClubSmoke x = Check.club("p03 v0 v1");
